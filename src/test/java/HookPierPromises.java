@@ -937,6 +937,12 @@ public final class HookPierPromises {
             z.day();
         }
         due("bestDay(), 99 since", z.bestDay(), 0);
+        HookPier w = eager("a boot at 0 depth 1 hunger 99 likes fly worth 97");
+        for (int i = 0; i < 60 && w.answer(0, 6) == 0; i++) {
+            w.let(0, 0, 1, 0);
+            w.day();
+        }
+        due("bestDay(), 98 now, 99 tomorrow", w.bestDay(), 1);
     }
 
     private static void bestDays() {
@@ -1187,6 +1193,12 @@ public final class HookPierPromises {
             late.day();
         }
         due("size(6)", late.size(6), 300);
+        // beyond 512 calls answers are free, yet none may go beyond the days that the document knows
+        for (int i = 300; i < 999; i++) {
+            late.day();
+        }
+        refused(late, "day(), 999 went by", late.day(), 3);
+        due("size(6)", late.size(6), 999);
     }
 
     private static void twoLines(String pier) {
