@@ -28,12 +28,14 @@ public final class HookPierEdges {
     private static int wrong = 0;
     private static int edges = 0;
     private static final int[] EDGES = new int[52];
+    private static final int[] WRONG = new int[52];
 
     private static void edge(String words, long got, long want) {
         edges++;
         EDGES[promise]++;
         if (got != want) {
             wrong++;
+            WRONG[promise]++;
             System.out.println("promise " + promise + ": " + words + ": answered " + got + ", due is " + want);
         }
     }
@@ -2124,6 +2126,7 @@ public final class HookPierEdges {
         int[] asked = EDGES.clone();
         for (promise = 1; promise <= 51; promise++) {
             edge("has edges that are tested", asked[promise] > 0, true);
+            System.out.println("promise " + promise + ": " + asked[promise] + " edges, " + WRONG[promise] + " not as due");
         }
         System.out.println(wrong == 0 ? "all " + edges + " edges are as due" : wrong + " edges are not as due");
         if (wrong != 0) {
