@@ -78,6 +78,7 @@ public final class HookPierEdges {
         HookPier x = new HookPier();
         if (tell(x, text) < 0) {
             wrong++;
+            WRONG[promise]++;
             System.out.println("promise " + promise + ": fault " + x.fault() + " at " + x.where() + " in " + text);
         }
         return x;

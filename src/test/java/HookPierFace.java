@@ -1,4 +1,5 @@
 import java.io.IOException;
+import java.lang.reflect.Array;
 import java.lang.reflect.Constructor;
 import java.lang.reflect.Field;
 import java.lang.reflect.Method;
@@ -7,6 +8,8 @@ import java.nio.file.Files;
 import java.nio.file.Path;
 import java.util.ArrayList;
 import java.util.Arrays;
+import java.util.Collections;
+import java.util.IdentityHashMap;
 import java.util.List;
 import java.util.Set;
 import java.util.TreeSet;
@@ -115,9 +118,50 @@ public final class HookPierFace {
         }
     }
 
-    public static void main(String[] args) throws IOException, NoSuchMethodException {
+    /** How many objects and arrays can be come to from one, and how many fields and elements they have. */
+    private static int[] roomOf(Object first) throws IllegalAccessException {
+        List<Object> todo = new ArrayList<>(List.of(first));
+        Set<Object> seen = Collections.newSetFromMap(new IdentityHashMap<>());
+        int parts = 0;
+        while (!todo.isEmpty()) {
+            Object o = todo.remove(todo.size() - 1);
+            if (o != null && seen.add(o)) {
+                boolean isArray = o.getClass().isArray();
+                parts += isArray ? Array.getLength(o) : 0;
+                if (isArray && !o.getClass().getComponentType().isPrimitive()) {
+                    todo.addAll(Arrays.asList((Object[]) o));
+                }
+                for (Field f : isArray ? new Field[0] : o.getClass().getDeclaredFields()) {
+                    if (!Modifier.isStatic(f.getModifiers())) {
+                        parts++;
+                        f.setAccessible(true);
+                        todo.add(f.getType().isPrimitive() ? null : f.get(o));
+                    }
+                }
+            }
+        }
+        return new int[] {seen.size(), parts};
+    }
+
+    /** Some 600,000 objects and 7.3 million parts are there for a whole run, so one object has a small share and never grows. */
+    private static void checkRoom() throws IllegalAccessException {
+        HookPier x = new HookPier();
+        int[] fresh = roomOf(x);
+        check(fresh[0] <= 300 && fresh[1] <= 4000, "a small room: " + Arrays.toString(fresh));
+        for (int i = 0; i < 100; i++) {
+            x.feed(0x70696572, 0x2073706f, 0x74732034, 0x20646565, 0x70203320);
+            x.feed(0x66726f6d, 0x20352074, 0x6f20363b, 0x62616974, 0x20742020);
+            x.pier(38);
+            x.day();
+            x.mark();
+        }
+        check(Arrays.equals(fresh, roomOf(x)), "a room that doesn't grow: " + Arrays.toString(roomOf(x)));
+    }
+
+    public static void main(String[] args) throws IOException, NoSuchMethodException, IllegalAccessException {
         checkFace();
         checkSource();
+        checkRoom();
         System.out.println(wrong == 0 ? "the face is as due" : wrong + " things are not as due");
         if (wrong != 0) {
             System.exit(1);

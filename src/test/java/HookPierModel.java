@@ -966,6 +966,8 @@ public final class HookPierModel {
         "loadWorth 1", "bestDay 0", "hooks 4", "lines 3", "rests 1", "rest 1", "landed 2", "landedIn 3", "crabs 2",
         "let 4", "drawIn 1", "sell 1", "day 0", "seed 1", "undo 0", "mark 0", "back 1"};
 
+    static final List<String> ACTS = Arrays.asList("let", "drawIn", "sell", "day", "seed", "undo", "mark", "back");
+
     static long real(HookPier x, String call, int[] p, boolean f) {
         return switch (call) {
             case "pier" -> x.pier(p[0]);
@@ -1022,13 +1024,25 @@ public final class HookPierModel {
     private final HookPier x = new HookPier();
     private final List<String> told = new ArrayList<>();
 
+    /** A new object (promise 1) is asked by all of its first calls; each other promise is a call's. */
+    private static final List<String> PROMISES = Arrays.asList("", "HookPier", "feed", "pier", "fault", "where", "answer", "asker",
+            "close", "wish", "takes", "nothing", "mean", "likeliest", "surest", "surestOdds", "best", "bestBait", "hungerFor",
+            "freeSpots", "tangles", "seatings", "seat", "mostSeated", "darks", "darkAt", "darkSpots", "ask", "askLeaves",
+            "judge", "worth", "load", "loadWorth", "bestDay", "hooks", "lines", "rests", "rest", "landed", "landedIn", "crabs",
+            "let", "drawIn", "sell", "day", "seed", "undo", "mark", "back", "led", "size", "trouble");
+    private static final int[] ASKED = new int[52];
+    private static final int[] WRONG = new int[52];
+
     void due(String call, long got, long want) {
+        int promise = t == null && told.isEmpty() ? 1 : PROMISES.indexOf(call.split("\\W")[0]);
+        ASKED[promise]++;
         told.add(call + " -> " + got);
         if (got != want) {
             wrong++;
+            WRONG[promise]++;
             if (wrong <= 5) {
                 System.out.println(String.join("\n", told));
-                System.out.println("due is " + want + "\n");
+                System.out.println("promise " + promise + ": due is " + want + "\n");
             }
         }
     }
@@ -1242,16 +1256,33 @@ public final class HookPierModel {
             if ((call[0].equals("undo") || call[0].equals("back")) && mostlyDays && upTo(4) != 0) {
                 call = new String[] {"let", "4"};
             }
-            int[] p = new int[Integer.parseInt(call[1])];
-            for (int j = 0; j < p.length; j++) {
-                p[j] = argument(call[0], j);
-            }
-            one(call[0], p);
+            one(call[0], arguments(call));
             if (upTo(12) == 0) {
                 others();
             }
         }
+        survey();
         others();
+    }
+
+    int[] arguments(String[] call) {
+        int[] p = new int[Integer.parseInt(call[1])];
+        for (int j = 0; j < p.length; j++) {
+            p[j] = argument(call[0], j);
+        }
+        return p;
+    }
+
+    /** Every call that changes nothing, of the state to which the run came. */
+    void survey() {
+        for (String refusable : REFUSABLE) {
+            String[] call = refusable.split(" ");
+            if (!ACTS.contains(call[0])) {
+                for (int times = 1 + 2 * Integer.parseInt(call[1]); times > 0; times--) {
+                    one(call[0], arguments(call));
+                }
+            }
+        }
     }
 
     public static void main(String[] args) {
@@ -1259,6 +1290,10 @@ public final class HookPierModel {
             random = new Random(i);
             HookPierModel m = new HookPierModel();
             m.run();
+        }
+        for (int promise = 1; promise <= 51; promise++) {
+            System.out.println("promise " + promise + ": " + ASKED[promise] + " answers, " + WRONG[promise] + " not as due");
+            wrong += ASKED[promise] == 0 ? 1 : 0;
         }
         System.out.println(wrong == 0 ? "all answers are as due" : wrong + " answers are not as due");
         if (wrong != 0) {

@@ -18,11 +18,13 @@ public final class HookPierPromises {
     private static int promise = 0;
     private static int wrong = 0;
     private static final int[] ASKED = new int[52];
+    private static final int[] WRONG = new int[52];
 
     private static void due(String what, long got, long want) {
         ASKED[promise]++;
         if (got != want) {
             wrong++;
+            WRONG[promise]++;
             System.out.println("promise " + promise + ": " + what + " answered " + got + ", due is " + want);
         }
     }
@@ -62,6 +64,7 @@ public final class HookPierPromises {
         HookPier x = new HookPier();
         if (tell(x, text) < 0) {
             wrong++;
+            WRONG[promise]++;
             System.out.println("promise " + promise + ": fault " + x.fault() + " at " + x.where() + " in " + text);
         }
         return x;
@@ -1396,8 +1399,10 @@ public final class HookPierPromises {
         marking();
         markOfLanded();
         tellings();
+        int[] asked = ASKED.clone();
         for (promise = 1; promise <= 51; promise++) {
-            due("asked of it at all", ASKED[promise] > 0, true);
+            due("asked of it at all", asked[promise] > 0, true);
+            System.out.println("promise " + promise + ": " + asked[promise] + " answers, " + WRONG[promise] + " not as due");
         }
         System.out.println(wrong == 0 ? "all answers are as due" : wrong + " answers are not as due");
         if (wrong != 0) {
